@@ -318,12 +318,8 @@ public final class AnswerPass {
         if (!isPerson(person) || !isWithin(voice, 0, Voices.PARTS)) {
             return refuse(BEYOND);
         }
-        int m = now.pass.numbers[person];
-        // Every KIND's parts comes to Man's, which parts by this; known ahead, THE TRACE can stay as it was.
-        if (voice == Voices.PARTS && m == person) {
-            return refuse(PARTED);
-        }
-        return voices.speaks(now.pass.kinds[person], person, m, voice, x);
+        int said = voices.speaks(now.pass.kinds[person], person, now.pass.numbers[person], voice, x);
+        return voices.isParted ? refuse(PARTED) : said;
     }
 
     public int body(int i) {
@@ -990,7 +986,7 @@ public final class AnswerPass {
         }
     }
 
-    /** The BODIES of the VOICES and THE TRACE of the latest one. */
+    /** The BODIES of the VOICES, THE TRACE of the latest one and whether it PARTED. */
     private static final class Voices {
         static final int SAYS = 0;
         static final int SEES = 1;
@@ -1013,6 +1009,7 @@ public final class AnswerPass {
 
         final int[] trace = new int[LONGEST];
         int begun = 0;
+        boolean isParted = false;
         int kind;
         int k;
         int m;
@@ -1022,6 +1019,7 @@ public final class AnswerPass {
             k = number;
             m = itsM;
             begun = 0;
+            isParted = false;
             return worksOut(bodyFrom(itsKind, voice), x, 0);
         }
 
@@ -1037,8 +1035,17 @@ public final class AnswerPass {
             return worksOut(bodyFrom(ABOVE[body / 10 - 1], voice), x, depth);
         }
 
+        private int partsBy(int by, int x) {
+            if (by == 0) {
+                isParted = true;
+                return 0;
+            }
+            return x / by;
+        }
+
         private int worksOut(int body, int x, int depth) {
-            if (body == 0 || depth > DEEPEST) {
+            // PARTED is all that voice() answers: no BODY begins any more behind the one that parted.
+            if (isParted || body == 0 || depth > DEEPEST) {
                 return 0;
             }
             begins(body);
@@ -1047,7 +1054,7 @@ public final class AnswerPass {
                 case 10: return x + k;
                 case 11: return says(x, deeper) * 2;
                 case 12: return sees(x, deeper) - m;
-                case 13: return m == k ? 0 : x / (m - k);
+                case 13: return partsBy(m - k, x);
                 case 20: return above(body, SAYS, x, deeper) - 4;
                 case 21: return above(body, PARTS, x, deeper) + sees(1, deeper);
                 case 30: return 0 - above(body, SEES, x, deeper);

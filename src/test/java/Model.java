@@ -697,15 +697,15 @@ final class Model {
         Man man = ofKind(one.kind);
         man.k = person;
         man.m = one.m;
-        man.trace = new ArrayList<>();
-        int answer = switch (voice) {
+        // The same list from here on: what began stays in THE TRACE when parts(..) is PARTED.
+        trace = new ArrayList<>();
+        man.trace = trace;
+        return switch (voice) {
             case 0 -> man.says(x);
             case 1 -> man.sees(x);
             case 2 -> man.walks(x);
             default -> man.parts(x);
         };
-        trace = man.trace;
-        return answer;
     }
 
     private int body(int i) {

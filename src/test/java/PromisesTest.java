@@ -36,6 +36,7 @@ public final class PromisesTest {
         fits();
         voice();
         voiceParted();
+        bodyOfParted();
         body();
         sheet();
         put();
@@ -658,12 +659,35 @@ public final class PromisesTest {
         for (int kind = 0; kind < 7; kind++) {
             AnswerPass x = with(0, 0, 10 * kind + 1, 0);
             x.voice(1, 2, 5);
-            int bodies = x.count(6);
             due.is(Due.PARTED, x.voice(1, 3, 5), "PARTED where m is k, KIND " + kind);
             due.is(1, x.told(6), "PARTED is told");
-            due.is(bodies, x.count(6), "an ERROR leaves THE TRACE");
+            due.is(Due.PARTED, x.voice(1, 3, 0), "PARTED, whatever x is");
+            due.is(2, x.told(6), "PARTED is told again");
             x.become(1, 10 * kind + 2);
             due.is(0, x.voice(1, 3, 5) == Due.PARTED ? 1 : 0, "not PARTED where m is not k");
+            due.is(2, x.told(6), "nor told");
+        }
+    }
+
+    private static void bodyOfParted() {
+        for (int kind = 0; kind < 7; kind++) {
+            AnswerPass x = with(0, 0, 10 * kind + 1, 0);
+            x.voice(1, 2, 5);
+            x.voice(1, 3, 5);
+            boolean byDrummer = kind == 1 || kind == 4;
+            int bodies = byDrummer ? 2 : 1;
+            due.is(bodies, x.count(6), "what began of a voice() that PARTED, KIND " + kind);
+            due.is(byDrummer ? 21 : 13, x.body(0), "the first BODY of a voice() that PARTED, KIND " + kind);
+            due.is(byDrummer ? 13 : Due.NONE, x.body(1), "nothing begins behind BODY 13, KIND " + kind);
+            due.is(Due.NONE, x.body(bodies), "none behind the last, KIND " + kind);
+            x.voice(1, 4, 0);
+            x.voice(2, 0, 0);
+            x.voice(-1, 3, 0);
+            due.is(bodies, x.count(6), "BEYOND leaves THE TRACE of what PARTED");
+            due.is(byDrummer ? 21 : 13, x.body(0), "BEYOND leaves its first BODY");
+            x.voice(1, 1, 0);
+            due.is(kind == 5 ? 60 : kind == 2 ? 30 : kind == 6 ? 71 : 11, x.body(0), "a later voice() has all its BODIES");
+            due.is(new int[] {2, 3, 3, 2, 4, 4, 3}[kind], x.count(6), "how many they are, KIND " + kind);
         }
     }
 

@@ -11,7 +11,7 @@ public final class RandomRunsTest {
         "puts pc", "puts pc", "drop co", "drop co", "drop co", "feed ln", "text u", "TEXT u", "TEXT u", "TEXT u", "TEXT u", "untell u",
         "law uiii", "law uiii", "law uiii", "hours n", "hours n", "loose n", "loose n", "hour h", "seed i", "then pno", "then pno",
         "soonest pc", "soonest pc", "least pcn", "least pcn", "fills pcno", "fills pcno", "fills pcno", "withWhom pn", "withWhom pn",
-        "withWhom pn", "odds pcno", "odds pcno", "fits bpo", "FITS bpo", "FITS bpo", "voice pvi", "voice pvi", "body v", "sheet btm", "put bmi",
+        "withWhom pn", "odds pcno", "odds pcno", "fits bpo", "FITS bpo", "FITS bpo", "voice pvi", "VOICE pvi", "body v", "sheet btm", "put bmi",
         "put bmx", "put bmx", "move bmbmm", "MOVE t", "TAPE ", "WAITS ", "SURES b", "judge b", "JUDGE b", "image ", "restore ", "tell s", "CHECK ", "check ", "count w",
         "told q",
     };
@@ -97,6 +97,17 @@ public final class RandomRunsTest {
                 for (int i = 0; i < 6; i++) {
                     asks("personIs", i, 2);
                 }
+            }
+            case "VOICE" -> {
+                if (random.nextInt(3) == 0) {
+                    asks("become", a[0], 10 * random.nextInt(7) + a[0]);
+                    a[1] = 3;
+                }
+                asks("voice", a);
+                for (int i = 0; i < 8; i++) {
+                    asks("body", i);
+                }
+                asks("count", 6);
             }
             case "TAPE" -> {
                 for (int i = 0; i < 9; i++) {
