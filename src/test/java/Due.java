@@ -9,6 +9,7 @@ final class Due {
     static final long PARTED = LOW - 6;
 
     private final String test;
+    private String sentence = "";
     private int asked = 0;
     private int wrong = 0;
 
@@ -16,16 +17,25 @@ final class Due {
         this.test = test;
     }
 
+    /** What is asked from here on is of a sentence of the document. */
+    void of(String itsSentence) {
+        sentence = " (" + itsSentence + ")";
+    }
+
     void is(long want, long got, String what) {
         asked++;
         if (want != got) {
             wrong++;
-            System.out.println(test + ": " + what + " answered " + got + ", due is " + want);
+            System.out.println(test + sentence + ": " + what + " answered " + got + ", due is " + want);
         }
     }
 
     void holds(boolean so, String what) {
         is(1, so ? 1 : 0, what);
+    }
+
+    int asked() {
+        return asked;
     }
 
     int wrong() {

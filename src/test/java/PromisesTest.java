@@ -52,22 +52,6 @@ public final class PromisesTest {
         due.close();
     }
 
-    /** PEOPLE by pairs of km and SURE. */
-    private static AnswerPass with(int... kmAndSure) {
-        AnswerPass x = new AnswerPass();
-        for (int i = 0; i < kmAndSure.length; i += 2) {
-            x.person(kmAndSure[i], kmAndSure[i + 1]);
-        }
-        return x;
-    }
-
-    private static void lays(AnswerPass x, int sheet, int bits, int... numbers) {
-        x.sheet(sheet, bits, numbers.length);
-        for (int i = 0; i < numbers.length; i++) {
-            x.put(sheet, i, numbers[i]);
-        }
-    }
-
     private static void aNewObject() {
         AnswerPass x = new AnswerPass();
         for (int what = 0; what <= 6; what++) {
@@ -103,7 +87,7 @@ public final class PromisesTest {
     }
 
     private static void personIsItsFields() {
-        AnswerPass x = with(34, 77);
+        AnswerPass x = Passes.with(34, 77);
         long[] fields = {3, 4, 77, 0, 0};
         for (int what = 0; what < fields.length; what++) {
             due.is(fields[what], x.personIs(0, what), "personIs(0, " + what + ")");
@@ -119,7 +103,7 @@ public final class PromisesTest {
     }
 
     private static void personIsClear() {
-        AnswerPass x = with(5, 59, 13, 79, 20, 29, 39, 0, 40, 70, 57, 0);
+        AnswerPass x = Passes.with(5, 59, 13, 79, 20, 29, 39, 0, 40, 70, 57, 0);
         due.is(5, x.personIs(0, 5), "MAN sees SURE by 10");
         due.is(3, x.personIs(1, 5), "DRUMMER sees half, cut");
         due.is(0, x.personIs(2, 5), "DEPENDS sees 0 at least");
@@ -149,7 +133,7 @@ public final class PromisesTest {
     }
 
     private static void personIsPaceAndFalls() {
-        AnswerPass x = with(0, 39, 0, 40, 24, 13, 24, 14, 30, 99, 65, 0);
+        AnswerPass x = Passes.with(0, 39, 0, 40, 24, 13, 24, 14, 30, 99, 65, 0);
         due.is(1, x.personIs(0, 6), "PACE where CLEAR is 3");
         due.is(2, x.personIs(1, 6), "PACE where CLEAR is 4");
         due.is(0, x.personIs(0, 7), "MAN never falls");
@@ -173,7 +157,7 @@ public final class PromisesTest {
     }
 
     private static void become() {
-        AnswerPass x = with(12, 55);
+        AnswerPass x = Passes.with(12, 55);
         x.puts(0, 4);
         due.is(1, x.become(0, 69), "become tells the KIND that one was");
         due.is(6, x.personIs(0, 0), "the new KIND");
@@ -187,7 +171,7 @@ public final class PromisesTest {
     }
 
     private static void as() {
-        AnswerPass x = with(47, 0, 58, 0, 9, 0);
+        AnswerPass x = Passes.with(47, 0, 58, 0, 9, 0);
         due.is(7, x.as(0, 4), "HONEYMOON as HONEYMOON");
         due.is(7, x.as(0, 1), "HONEYMOON as DRUMMER");
         due.is(7, x.as(0, 0), "HONEYMOON as MAN");
@@ -202,7 +186,7 @@ public final class PromisesTest {
     }
 
     private static void answers() {
-        AnswerPass x = with(0, 12);
+        AnswerPass x = Passes.with(0, 12);
         due.is(12, x.answers(0, 99), "answers tells what it was");
         due.is(Due.BEYOND, x.answers(0, 100), "answers(0, 100)");
         due.is(Due.BEYOND, x.answers(0, -1), "answers(0, -1)");
@@ -211,7 +195,7 @@ public final class PromisesTest {
     }
 
     private static void puts() {
-        AnswerPass x = with(30, 12);
+        AnswerPass x = Passes.with(30, 12);
         x.drop(2, 1);
         x.hours(1);
         due.is(1, x.personIs(0, 4), "LOST ahead of puts");
@@ -346,7 +330,7 @@ public final class PromisesTest {
     }
 
     private static void hours() {
-        AnswerPass x = with(0, 99, 0, 5, 39, 0);
+        AnswerPass x = Passes.with(0, 99, 0, 5, 39, 0);
         due.is(Due.BEYOND, x.hours(0), "hours(0)");
         due.is(Due.BEYOND, x.hours(61), "hours(61)");
         x.drop(9, 1);
@@ -369,14 +353,14 @@ public final class PromisesTest {
     }
 
     private static void hoursOneByOne() {
-        AnswerPass x = with(0, 40, 40, 60);
+        AnswerPass x = Passes.with(0, 40, 40, 60);
         x.hours(1);
         due.is(2, x.personIs(0, 3), "the first goes first");
         due.is(1, x.personIs(1, 3), "HONEYMOON sets out alone then: sees 3");
-        x = with(40, 60, 0, 40);
+        x = Passes.with(40, 60, 0, 40);
         x.hours(1);
         due.is(2, x.personIs(0, 3), "HONEYMOON sets out TOGETHER with one: sees 4");
-        x = with(0, 99);
+        x = Passes.with(0, 99);
         Due.tells(x, 0, "1");
         Due.tells(x, 1, "3");
         x.hours(1);
@@ -384,7 +368,7 @@ public final class PromisesTest {
         x.untell(0);
         x.hours(1);
         due.is(4, x.personIs(0, 3), "PACE times");
-        x = with(30, 0);
+        x = Passes.with(30, 0);
         x.drop(1, 1);
         x.drop(2, 1);
         x.hours(5);
@@ -392,7 +376,7 @@ public final class PromisesTest {
         x.puts(0, 1);
         x.hours(1);
         due.is(2, x.personIs(0, 3), "from a DROP one goes on to the next");
-        x = with(65, 20);
+        x = Passes.with(65, 20);
         x.drop(15 - 1, 1);
         x.puts(0, 13);
         x.hour(15);
@@ -465,7 +449,7 @@ public final class PromisesTest {
     }
 
     private static void then() {
-        AnswerPass x = with(0, 99, 30, 0);
+        AnswerPass x = Passes.with(0, 99, 30, 0);
         x.drop(5, 1);
         due.is(0, x.then(0, 0, 0), "then(0, 0, 0)");
         due.is(4, x.then(0, 60, 0), "MAN stops ahead of a DROP");
@@ -480,18 +464,18 @@ public final class PromisesTest {
         due.is(Due.BEYOND, x.then(0, -1, 0), "then(0, -1, 0)");
         due.is(Due.BEYOND, x.then(0, 1, 2), "then(0, 1, 2)");
         due.is(Due.BEYOND, x.then(0, 1, -1), "then(0, 1, -1)");
-        x = with(64, 0);
+        x = Passes.with(64, 0);
         x.hour(9999);
         // HOUR 9999 leaves 4 by 5, 10000 leaves 0, 10001 leaves 1.
         due.is(2, x.then(0, 2, 0), "HOUR goes beyond 9999 in thought: 4, then 0");
         due.is(3, x.then(0, 3, 0), "HOUR goes beyond 9999 in thought: 1");
-        x = with(40, 60, 0, 40);
+        x = Passes.with(40, 60, 0, 40);
         due.is(2, x.then(0, 1, 0), "HONEYMOON in thought TOGETHER with one");
         due.is(4, x.then(0, 2, 0), "and once more: the other kept up");
     }
 
     private static void soonest() {
-        AnswerPass x = with(0, 10, 30, 0, 0, 0);
+        AnswerPass x = Passes.with(0, 10, 30, 0, 0, 0);
         due.is(0, x.soonest(0, 0), "one is there");
         due.is(15, x.soonest(0, 15), "an HOUR a CELL");
         due.is(8, x.soonest(1, 15), "two CELLS an HOUR");
@@ -515,7 +499,7 @@ public final class PromisesTest {
     }
 
     private static void least() {
-        AnswerPass x = with(0, 99, 25, 0);
+        AnswerPass x = Passes.with(0, 99, 25, 0);
         due.is(0, x.least(0, 0, 0), "one is there");
         due.is(10, x.least(0, 15, 15), "an HOUR a CELL");
         due.is(40, x.least(0, 15, 14), "two CELLS an HOUR");
@@ -533,7 +517,7 @@ public final class PromisesTest {
     }
 
     private static void fills() {
-        AnswerPass x = with(0, 50, 30, 0);
+        AnswerPass x = Passes.with(0, 50, 30, 0);
         x.drop(5, 1);
         x.drop(9, 1);
         due.is(0, x.fills(0, 4, 20, 0), "no DROP is in the way");
@@ -546,11 +530,11 @@ public final class PromisesTest {
         x.drop(12, 1);
         due.is(Due.NONE, x.fills(0, 15, 20, 1), "not by 2");
         due.is(1 << 5 | 1 << 9 | 1 << 12, x.count(1), "only thought");
-        x = with(30, 0);
+        x = Passes.with(30, 0);
         x.drop(1, 1);
         x.puts(0, 1);
         due.is(0, x.fills(0, 15, 20, 0), "a DROP behind one is not in the way");
-        x = with(40, 99, 0, 40, 40, 0);
+        x = Passes.with(40, 99, 0, 40, 40, 0);
         x.drop(1, 1);
         x.drop(2, 1);
         x.drop(4, 1);
@@ -564,7 +548,7 @@ public final class PromisesTest {
     }
 
     private static void withWhom() {
-        AnswerPass x = with(0, 40);
+        AnswerPass x = Passes.with(0, 40);
         due.is(Due.NONE, x.withWhom(0, 3), "nobody else");
         x.person(0, 0);
         x.person(0, 0);
@@ -576,7 +560,7 @@ public final class PromisesTest {
         x.drop(2, 1);
         due.is(1, x.withWhom(0, 2), "a DROP on the way from 0");
         due.is(0, x.personIs(0, 3), "only thought");
-        x = with(30, 0, 0, 0, 0, 0);
+        x = Passes.with(30, 0, 0, 0, 0, 0);
         x.puts(1, 4);
         x.puts(2, 6);
         x.drop(5, 1);
@@ -591,7 +575,7 @@ public final class PromisesTest {
     }
 
     private static void odds() {
-        AnswerPass x = with(0, 0, 20, 0);
+        AnswerPass x = Passes.with(0, 0, 20, 0);
         due.is(1, x.odds(0, 0, 0, 0), "all of 100: above");
         due.is(1, x.odds(0, 0, 0, 1), "all of 100: below");
         due.is(9, x.odds(0, 1, 1, 0), "90 of 100: above");
@@ -612,8 +596,8 @@ public final class PromisesTest {
     }
 
     private static void fits() {
-        AnswerPass x = with(60, 5);
-        lays(x, 0, 8, 3, 4, 5, 6, 7, 3);
+        AnswerPass x = Passes.with(60, 5);
+        Passes.lays(x, 0, 8, 3, 4, 5, 6, 7, 3);
         due.is(10, x.fits(0, 0, 0), "OLD by the rest of HOUR by 5");
         due.is(30, x.fits(0, 0, 1), "the least");
         due.is(5, x.personIs(0, 2), "only thought");
@@ -629,9 +613,9 @@ public final class PromisesTest {
         due.is(Due.BEYOND, x.fits(2, 1, 0), "BEYOND is asked ahead of NONE");
         due.is(Due.BEYOND, x.fits(0, 0, 2), "fits(.., 2)");
         due.is(Due.BEYOND, x.fits(0, 0, -1), "fits(.., -1)");
-        x = with(40, 0, 30, 0);
+        x = Passes.with(40, 0, 30, 0);
         x.drop(1, 1);
-        lays(x, 0, 16, 4, 3, 3);
+        Passes.lays(x, 0, 16, 4, 3, 3);
         due.is(20, x.fits(0, 0, 0), "HONEYMOON whom the LIAR leaves");
         due.is(60, x.fits(0, 0, 1), "the least HONEYMOON");
     }
@@ -645,11 +629,11 @@ public final class PromisesTest {
             {65, 3, -9, -2}, {0, 3, Integer.MIN_VALUE, Integer.MIN_VALUE}, {5, 1, Integer.MAX_VALUE, 0}, {0, 0, -1000000002, -1000000001},
         };
         for (int[] v : voices) {
-            AnswerPass x = with(0, 0, v[0], 0);
+            AnswerPass x = Passes.with(0, 0, v[0], 0);
             due.is(v[3], x.voice(1, v[1], v[2]), "voice " + v[1] + " of " + v[0] + " with " + v[2]);
             due.is(0, x.told(1), "no ERROR by an answer that looks like one");
         }
-        AnswerPass x = with(0, 0);
+        AnswerPass x = Passes.with(0, 0);
         due.is(Due.BEYOND, x.voice(0, 4, 0), "voice(0, 4, 0)");
         due.is(Due.BEYOND, x.voice(0, -1, 0), "voice(0, -1, 0)");
         due.is(Due.BEYOND, x.voice(1, 0, 0), "voice of nobody");
@@ -657,7 +641,7 @@ public final class PromisesTest {
 
     private static void voiceParted() {
         for (int kind = 0; kind < 7; kind++) {
-            AnswerPass x = with(0, 0, 10 * kind + 1, 0);
+            AnswerPass x = Passes.with(0, 0, 10 * kind + 1, 0);
             x.voice(1, 2, 5);
             due.is(Due.PARTED, x.voice(1, 3, 5), "PARTED where m is k, KIND " + kind);
             due.is(1, x.told(6), "PARTED is told");
@@ -671,7 +655,7 @@ public final class PromisesTest {
 
     private static void bodyOfParted() {
         for (int kind = 0; kind < 7; kind++) {
-            AnswerPass x = with(0, 0, 10 * kind + 1, 0);
+            AnswerPass x = Passes.with(0, 0, 10 * kind + 1, 0);
             x.voice(1, 2, 5);
             x.voice(1, 3, 5);
             boolean byDrummer = kind == 1 || kind == 4;
@@ -698,7 +682,7 @@ public final class PromisesTest {
             {40, 3, 21, 13, 11, 50, 20, 10}, {50, 2, 12, 60, 30, 11, 10}, {60, 2, 12, 71, 11, 70}, {60, 0, 70}, {60, 3, 13},
         };
         for (int[] t : traces) {
-            AnswerPass x = with(0, 0, t[0], 0);
+            AnswerPass x = Passes.with(0, 0, t[0], 0);
             due.is(Due.NONE, x.body(0), "no TRACE at first");
             x.voice(0, 0, 1);
             x.voice(1, t[1], 3);
@@ -714,7 +698,7 @@ public final class PromisesTest {
     }
 
     private static void sheet() {
-        AnswerPass x = with(0, 50);
+        AnswerPass x = Passes.with(0, 50);
         due.is(1, x.sheet(0, 8, 24), "sheet(0, 8, 24)");
         due.is(1, x.put(0, 23, 5), "the last number");
         due.is(1, x.sheet(3, 16, 0), "sheet(3, 16, 0)");
@@ -736,7 +720,7 @@ public final class PromisesTest {
     }
 
     private static void put() {
-        AnswerPass x = with(0, 50, 0, 50);
+        AnswerPass x = Passes.with(0, 50, 0, 50);
         due.is(Due.NONE, x.put(0, 0, 1), "put to a missing SHEET");
         due.is(Due.BEYOND, x.put(4, 0, 1), "put(4, ..)");
         due.is(Due.BEYOND, x.put(-1, 0, 1), "put(-1, ..)");
@@ -758,8 +742,8 @@ public final class PromisesTest {
     }
 
     private static void move() {
-        AnswerPass x = with(0, 0, 0, 0, 0, 0, 0, 0, 0, 0);
-        lays(x, 0, 8, 1, 2, 3, 4, 5);
+        AnswerPass x = Passes.with(0, 0, 0, 0, 0, 0, 0, 0, 0, 0);
+        Passes.lays(x, 0, 8, 1, 2, 3, 4, 5);
         due.is(4, x.move(0, 0, 0, 1, 4), "up within a SHEET");
         x.sures(0);
         int[] up = {1, 1, 2, 3, 4};
@@ -772,7 +756,7 @@ public final class PromisesTest {
         for (int i = 0; i < 5; i++) {
             due.is(down[i], x.personIs(i, 2), "number " + i + " moved down");
         }
-        lays(x, 1, 8, 9, 9);
+        Passes.lays(x, 1, 8, 9, 9);
         due.is(1, x.move(0, 4, 1, 1, 1), "to another SHEET");
         x.sures(1);
         due.is(4, x.personIs(1, 2), "number 1 of the other");
@@ -793,16 +777,16 @@ public final class PromisesTest {
     }
 
     private static void sures() {
-        AnswerPass x = with(0, 1, 0, 2, 0, 3);
-        lays(x, 0, 32, 99, 0, 50, 50);
+        AnswerPass x = Passes.with(0, 1, 0, 2, 0, 3);
+        Passes.lays(x, 0, 32, 99, 0, 50, 50);
         due.is(3, x.sures(0), "up to one for whom there is nobody");
         due.is(99, x.personIs(0, 2), "SURE of the first");
         due.is(0, x.personIs(1, 2), "SURE of the second");
-        lays(x, 0, 32, 7, 100, 8);
+        Passes.lays(x, 0, 32, 7, 100, 8);
         due.is(1, x.sures(0), "up to 100");
         due.is(7, x.personIs(0, 2), "SURE ahead of it");
         due.is(50, x.personIs(2, 2), "SURE behind it stays");
-        lays(x, 0, 32, -1);
+        Passes.lays(x, 0, 32, -1);
         due.is(0, x.sures(0), "up to -1");
         due.is(0, x.told(1), "no ERROR");
         due.is(Due.NONE, x.sures(1), "missing");
@@ -811,10 +795,10 @@ public final class PromisesTest {
     }
 
     private static void judge() {
-        AnswerPass x = with(0, 1, 0, 2, 0, 3);
+        AnswerPass x = Passes.with(0, 1, 0, 2, 0, 3);
         x.puts(0, 4);
         x.puts(2, 9);
-        lays(x, 0, 8, 4, 0, 9, 0);
+        Passes.lays(x, 0, 8, 4, 0, 9, 0);
         due.is(3, x.judge(0), "all are right, then there is nobody");
         x.puts(1, 1);
         due.is(1, x.judge(0), "up to the first that is wrong");
@@ -826,7 +810,7 @@ public final class PromisesTest {
     }
 
     private static void image() {
-        AnswerPass x = with(0, 10);
+        AnswerPass x = Passes.with(0, 10);
         due.is(1, x.image(), "the first IMAGE");
         x.answers(0, 20);
         due.is(2, x.image(), "the second IMAGE");
@@ -837,7 +821,7 @@ public final class PromisesTest {
     }
 
     private static void restore() {
-        AnswerPass x = with(31, 10, 42, 20);
+        AnswerPass x = Passes.with(31, 10, 42, 20);
         x.drop(9, 1);
         x.puts(0, 8);
         x.hours(1);
@@ -895,7 +879,7 @@ public final class PromisesTest {
     }
 
     private static void check() {
-        AnswerPass x = with(0, 10, 0, 20);
+        AnswerPass x = Passes.with(0, 10, 0, 20);
         due.is(0, x.check(), "none waits");
         x.tell(10);
         due.is(0, x.check(), "the first is so");
@@ -917,7 +901,7 @@ public final class PromisesTest {
     }
 
     private static void count() {
-        AnswerPass x = with(0, 10, 0, 20, 0, 30);
+        AnswerPass x = Passes.with(0, 10, 0, 20, 0, 30);
         x.puts(0, 15);
         x.puts(2, 15);
         x.drop(6, 1);
@@ -935,7 +919,7 @@ public final class PromisesTest {
     }
 
     private static void told() {
-        AnswerPass x = with(0, 0);
+        AnswerPass x = Passes.with(0, 0);
         x.count(9);
         x.body(0);
         x.body(0);
